@@ -12,6 +12,7 @@ public final class SharesTest {
         promise4Vessel(check);
         promise5Link(check);
         promise5LinkLooksAtEverySpecies(check);
+        promise5LongestChains(check);
         promise6Unlink(check);
         promise7Issue(check);
         promise7IssueLooksAtGroups(check);
@@ -154,6 +155,15 @@ public final class SharesTest {
         check.due(10, x.place(3, 0, 4));
         check.state(x, () -> x.vessel(0, 0));
         x.vessel(1, 1);
+        // One part of any species is enough to keep a vessel.
+        for (int s = 0; s < 3; s++) {
+            x.issue(s, 2, 1);
+            x.place(s, 2, 1);
+            check.state(x, () -> x.vessel(2, 3));
+            x.place(s, 2, -1);
+            x.vessel(2, 3);
+            x.vessel(2, 2);
+        }
     }
 
     private static void promise5Link(Check check) {
@@ -209,6 +219,22 @@ public final class SharesTest {
             check.due(10, x.held(s, 2, 2));
             check.due(5, x.held(s, 1, 2));
         }
+    }
+
+    private static void promise5LongestChains(Check check) {
+        QuotaRegister x = new QuotaRegister();
+        for (int owner = 0; owner < 6; owner++) {
+            x.issue(0, owner, 1 << owner);
+        }
+        for (int owner = 5; owner > 0; owner--) {
+            x.link(owner, owner - 1);
+        }
+        for (int owner = 0; owner < 6; owner++) {
+            check.due(63, x.held(0, owner, 2));
+        }
+        x.unlink(2, 3);
+        check.due(7, x.held(0, 0, 2));
+        check.due(56, x.held(0, 5, 2));
     }
 
     private static void promise6Unlink(Check check) {

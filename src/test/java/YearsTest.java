@@ -19,10 +19,12 @@ public final class YearsTest {
         promise10EqualRemainders(check);
         promise10LargeAllotments(check);
         promise10AllotmentIsOfPlacedParts(check);
+        promise10JustBelowAKilogram(check);
         promise11End(check);
         promise11Banks(check);
         promise11AdvancesAndLevies(check);
         promise11PercentagesAreOfTheAllotment(check);
+        promise11EveryAccount(check);
         promise17Account(check);
         promise17WrongInputs(check);
         promise18Levy(check);
@@ -170,6 +172,23 @@ public final class YearsTest {
         check.due(0, x.account(1, 0, 0, ALLOTTED));
     }
 
+    private static void promise10JustBelowAKilogram(Check check) {
+        QuotaRegister x = new QuotaRegister();
+        x.issue(0, 0, 499999);
+        x.issue(0, 3, 500000);
+        x.place(0, 0, 499999);
+        x.place(0, 3, 500000);
+        x.issue(1, 0, 500000);
+        x.issue(1, 3, 500000);
+        x.place(1, 0, 500000);
+        x.place(1, 3, 500000);
+        x.open(1, 1, 0, 0);
+        check.due(0, x.account(1, 0, 0, ALLOTTED));
+        check.due(0, x.account(1, 3, 0, ALLOTTED));
+        check.due(1, x.account(1, 0, 1, ALLOTTED));
+        check.due(0, x.account(1, 3, 1, ALLOTTED));
+    }
+
     private static void promise11End(Check check) {
         QuotaRegister x = placed();
         check.state(x, () -> x.end());
@@ -270,6 +289,27 @@ public final class YearsTest {
         // Vessel 2: 300 allotted, 0 of them left before 40 are landed.
         check.due(15, x.account(1, 2, 0, ADVANCED));
         check.due(25, x.account(1, 2, 0, LEVIED));
+    }
+
+    private static void promise11EveryAccount(Check check) {
+        for (int i = 0; i < 24; i++) {
+            int v = i / 4;
+            int s = i % 4;
+            QuotaRegister x = new QuotaRegister();
+            x.issue(s, v, 1000000);
+            x.place(s, v, 1000000);
+            x.open(100, 100, 100, 100);
+            x.land(1, v, s, 0, 110, false);
+            check.due(1, x.end());
+            check.due(5, x.account(1, v, s, ADVANCED));
+            check.due(5, x.account(1, v, s, LEVIED));
+            x.open(100, 100, 100, 100);
+            check.due(5, x.account(2, v, s, TAKEN_OFF));
+            check.due(0, x.end());
+            x.open(0, 0, 0, 0);
+            check.due(15, x.account(3, v, s, BANKED));
+            check.due(0, x.account(3, v, s, TAKEN_OFF));
+        }
     }
 
     private static void promise17Account(Check check) {
