@@ -40,28 +40,28 @@ public final class EventsTest {
 
     private static void promise12Lease(Check check) {
         QuotaRegister y = new QuotaRegister();
-        check.state(y, () -> y.lease(0, 0, 1, 1));
-        check.argument(y, () -> y.lease(0, 0, 1, 0));
+        check.state(() -> y.lease(0, 0, 1, 1));
+        check.argument(() -> y.lease(0, 0, 1, 0));
         QuotaRegister x = opened();
-        check.argument(x, () -> x.lease(-1, 0, 1, 5));
-        check.argument(x, () -> x.lease(4, 0, 1, 5));
-        check.argument(x, () -> x.lease(0, -1, 1, 5));
-        check.argument(x, () -> x.lease(0, 6, 1, 5));
-        check.argument(x, () -> x.lease(0, 0, -1, 5));
-        check.argument(x, () -> x.lease(0, 0, 6, 5));
-        check.argument(x, () -> x.lease(0, 2, 2, 5));
-        check.argument(x, () -> x.lease(0, 0, 1, 0));
-        check.argument(x, () -> x.lease(0, 0, 1, -5));
-        check.argument(x, () -> x.lease(0, 0, 1, 1000001));
-        check.argument(x, () -> x.lease(MIN, MAX, MIN, MAX));
-        check.state(x, () -> x.lease(3, 0, 5, 1000000));
-        check.state(x, () -> x.lease(3, 0, 5, 2001));
+        check.argument(() -> x.lease(-1, 0, 1, 5));
+        check.argument(() -> x.lease(4, 0, 1, 5));
+        check.argument(() -> x.lease(0, -1, 1, 5));
+        check.argument(() -> x.lease(0, 6, 1, 5));
+        check.argument(() -> x.lease(0, 0, -1, 5));
+        check.argument(() -> x.lease(0, 0, 6, 5));
+        check.argument(() -> x.lease(0, 2, 2, 5));
+        check.argument(() -> x.lease(0, 0, 1, 0));
+        check.argument(() -> x.lease(0, 0, 1, -5));
+        check.argument(() -> x.lease(0, 0, 1, 1000001));
+        check.argument(() -> x.lease(MIN, MAX, MIN, MAX));
+        check.state(() -> x.lease(3, 0, 5, 1000000));
+        check.state(() -> x.lease(3, 0, 5, 2001));
         check.due(0, x.lease(3, 0, 5, 1500));
         check.due(-1500, x.account(1, 0, 3, LEASED));
         check.due(1500, x.account(1, 5, 3, LEASED));
         check.due(500, x.account(1, 0, 3, LEFT));
         check.due(2000, x.account(1, 0, 0, LEFT));
-        check.state(x, () -> x.lease(3, 0, 1, 501));
+        check.state(() -> x.lease(3, 0, 1, 501));
         check.due(1, x.lease(3, 0, 1, 500));
         check.due(2, x.lease(3, 5, 1, 1));
         check.due(1499, x.account(1, 5, 3, LEASED));
@@ -70,14 +70,14 @@ public final class EventsTest {
         check.due(501, x.account(1, 0, 3, LEASED));
         // What is charged is not left.
         x.land(1, 2, 0, 0, 1990, false);
-        check.state(x, () -> x.lease(0, 2, 0, 11));
+        check.state(() -> x.lease(0, 2, 0, 11));
         check.due(5, x.lease(0, 2, 0, 10));
-        check.state(x, () -> x.lease(0, 2, 0, 1));
+        check.state(() -> x.lease(0, 2, 0, 1));
         x.end();
-        check.state(x, () -> x.lease(3, 1, 0, 1));
+        check.state(() -> x.lease(3, 1, 0, 1));
         x.reopen(1);
-        check.state(x, () -> x.lease(3, 1, 0, 1));
-        check.argument(x, () -> x.lease(3, 1, 1, 1));
+        check.state(() -> x.lease(3, 1, 0, 1));
+        check.argument(() -> x.lease(3, 1, 1, 1));
     }
 
     private static void promise12LeaseOfBankedAndTakenOff(Check check) {
@@ -85,32 +85,32 @@ public final class EventsTest {
         x.land(1, 1, 0, 0, 2100, false);
         x.end();
         x.open(8000, 0, 0, 0);
-        check.state(x, () -> x.lease(0, 0, 5, 2301));
+        check.state(() -> x.lease(0, 0, 5, 2301));
         check.due(1, x.lease(0, 0, 5, 2300));
-        check.state(x, () -> x.lease(0, 1, 5, 1901));
+        check.state(() -> x.lease(0, 1, 5, 1901));
         check.due(2, x.lease(0, 1, 5, 1900));
         check.due(2, x.event(1, 1));
     }
 
     private static void promise13Land(Check check) {
         QuotaRegister y = new QuotaRegister();
-        check.argument(y, () -> y.land(0, 0, 0, 0, 1, false));
-        check.argument(y, () -> y.land(1, 0, 0, 0, 1, false));
+        check.argument(() -> y.land(0, 0, 0, 0, 1, false));
+        check.argument(() -> y.land(1, 0, 0, 0, 1, false));
         QuotaRegister x = opened();
-        check.argument(x, () -> x.land(0, 0, 0, 0, 1, false));
-        check.argument(x, () -> x.land(-1, 0, 0, 0, 1, false));
-        check.argument(x, () -> x.land(2, 0, 0, 0, 1, false));
-        check.argument(x, () -> x.land(9, 0, 0, 0, 1, false));
-        check.argument(x, () -> x.land(1, -1, 0, 0, 1, false));
-        check.argument(x, () -> x.land(1, 6, 0, 0, 1, false));
-        check.argument(x, () -> x.land(1, 0, -1, 0, 1, false));
-        check.argument(x, () -> x.land(1, 0, 4, 0, 1, false));
-        check.argument(x, () -> x.land(1, 0, 0, -1, 1, false));
-        check.argument(x, () -> x.land(1, 0, 0, 3, 1, false));
-        check.argument(x, () -> x.land(1, 0, 0, 0, 0, false));
-        check.argument(x, () -> x.land(1, 0, 0, 0, -1, true));
-        check.argument(x, () -> x.land(1, 0, 0, 0, 1000001, false));
-        check.argument(x, () -> x.land(MAX, MIN, MAX, MIN, MAX, true));
+        check.argument(() -> x.land(0, 0, 0, 0, 1, false));
+        check.argument(() -> x.land(-1, 0, 0, 0, 1, false));
+        check.argument(() -> x.land(2, 0, 0, 0, 1, false));
+        check.argument(() -> x.land(9, 0, 0, 0, 1, false));
+        check.argument(() -> x.land(1, -1, 0, 0, 1, false));
+        check.argument(() -> x.land(1, 6, 0, 0, 1, false));
+        check.argument(() -> x.land(1, 0, -1, 0, 1, false));
+        check.argument(() -> x.land(1, 0, 4, 0, 1, false));
+        check.argument(() -> x.land(1, 0, 0, -1, 1, false));
+        check.argument(() -> x.land(1, 0, 0, 3, 1, false));
+        check.argument(() -> x.land(1, 0, 0, 0, 0, false));
+        check.argument(() -> x.land(1, 0, 0, 0, -1, true));
+        check.argument(() -> x.land(1, 0, 0, 0, 1000001, false));
+        check.argument(() -> x.land(MAX, MIN, MAX, MIN, MAX, true));
         check.due(0, x.land(1, 0, 0, 0, 1, false));
         check.due(1, x.land(1, 5, 3, 2, 1000000, false));
         check.due(2, x.land(1, 0, 0, 1, 2, false));
@@ -119,13 +119,13 @@ public final class EventsTest {
         check.due(1000000, x.account(1, 5, 3, CHARGED));
         check.due(-1000000, x.account(1, 5, 3, LEFT));
         x.end();
-        check.state(x, () -> x.land(1, 0, 0, 0, 1, false));
+        check.state(() -> x.land(1, 0, 0, 0, 1, false));
         // No factor, or no such year, comes before what state the year is in.
         x.factor(2, 1, 0);
-        check.argument(x, () -> x.land(1, 0, 2, 1, 1, false));
-        check.argument(x, () -> x.land(2, 0, 0, 0, 1, false));
+        check.argument(() -> x.land(1, 0, 2, 1, 1, false));
+        check.argument(() -> x.land(2, 0, 0, 0, 1, false));
         x.open(0, 0, 0, 0);
-        check.state(x, () -> x.land(1, 0, 0, 0, 1, false));
+        check.state(() -> x.land(1, 0, 0, 0, 1, false));
         check.due(3, x.land(2, 0, 0, 0, 1, false));
         check.due(3, x.account(1, 0, 0, CHARGED));
         check.due(1, x.account(2, 0, 0, CHARGED));
@@ -179,21 +179,21 @@ public final class EventsTest {
 
     private static void promise14Equivalent(Check check) {
         QuotaRegister y = new QuotaRegister();
-        check.state(y, () -> y.equivalent(0, 0, 1, 1));
-        check.argument(y, () -> y.equivalent(0, 1, 1, 1));
+        check.state(() -> y.equivalent(0, 0, 1, 1));
+        check.argument(() -> y.equivalent(0, 1, 1, 1));
         QuotaRegister x = opened();
         x.land(1, 0, 0, 0, 1500, false);
-        check.argument(x, () -> x.equivalent(-1, 0, 1, 5));
-        check.argument(x, () -> x.equivalent(6, 0, 1, 5));
-        check.argument(x, () -> x.equivalent(0, -1, 1, 5));
-        check.argument(x, () -> x.equivalent(0, 4, 1, 5));
-        check.argument(x, () -> x.equivalent(0, 0, -1, 5));
-        check.argument(x, () -> x.equivalent(0, 0, 4, 5));
-        check.argument(x, () -> x.equivalent(0, 0, 0, 5));
-        check.argument(x, () -> x.equivalent(0, 0, 1, 0));
-        check.argument(x, () -> x.equivalent(0, 0, 1, -5));
-        check.argument(x, () -> x.equivalent(0, 0, 1, 1001));
-        check.argument(x, () -> x.equivalent(MIN, MAX, MIN, MAX));
+        check.argument(() -> x.equivalent(-1, 0, 1, 5));
+        check.argument(() -> x.equivalent(6, 0, 1, 5));
+        check.argument(() -> x.equivalent(0, -1, 1, 5));
+        check.argument(() -> x.equivalent(0, 4, 1, 5));
+        check.argument(() -> x.equivalent(0, 0, -1, 5));
+        check.argument(() -> x.equivalent(0, 0, 4, 5));
+        check.argument(() -> x.equivalent(0, 0, 0, 5));
+        check.argument(() -> x.equivalent(0, 0, 1, 0));
+        check.argument(() -> x.equivalent(0, 0, 1, -5));
+        check.argument(() -> x.equivalent(0, 0, 1, 1001));
+        check.argument(() -> x.equivalent(MIN, MAX, MIN, MAX));
         check.due(1, x.equivalent(0, 0, 3, 400));
         check.due(1100, x.account(1, 0, 0, CHARGED));
         check.due(400, x.account(1, 0, 3, CHARGED));
@@ -206,10 +206,10 @@ public final class EventsTest {
         check.due(0, x.account(1, 0, 3, CHARGED));
         check.due(2, x.event(2, 0));
         x.end();
-        check.state(x, () -> x.equivalent(0, 0, 1, 1));
+        check.state(() -> x.equivalent(0, 0, 1, 1));
         x.reopen(1);
-        check.state(x, () -> x.equivalent(0, 0, 1, 1));
-        check.argument(x, () -> x.equivalent(0, 1, 1, 1));
+        check.state(() -> x.equivalent(0, 0, 1, 1));
+        check.argument(() -> x.equivalent(0, 1, 1, 1));
     }
 
     private static void promise14ChargedUp(Check check) {
@@ -263,38 +263,38 @@ public final class EventsTest {
         check.due(8, x.equivalent(0, 0, 1, 300));
         check.due(600, x.event(8, 3));
         check.due(9, x.equivalent(0, 2, 3, 500));
-        check.state(x, () -> x.equivalent(0, 3, 0, 201));
+        check.state(() -> x.equivalent(0, 3, 0, 201));
         check.due(10, x.equivalent(0, 3, 0, 200));
-        check.state(x, () -> x.equivalent(0, 3, 0, 1));
+        check.state(() -> x.equivalent(0, 3, 0, 1));
         // Another vessel and another year have their own.
         check.due(11, x.equivalent(1, 2, 3, 1000));
-        check.state(x, () -> x.equivalent(1, 3, 2, 1));
+        check.state(() -> x.equivalent(1, 3, 2, 1));
         x.end();
         x.open(8000, 8000, 8000, 8000);
         x.land(2, 0, 2, 0, 1001, false);
         check.due(13, x.equivalent(0, 2, 3, 1000));
-        check.state(x, () -> x.equivalent(0, 2, 3, 1));
+        check.state(() -> x.equivalent(0, 2, 3, 1));
     }
 
     private static void promise14NeedsChargedAndLeft(Check check) {
         QuotaRegister x = opened();
         x.land(1, 0, 0, 0, 100, false);
         x.land(1, 0, 1, 0, 1950, false);
-        check.state(x, () -> x.equivalent(0, 0, 1, 51));
-        check.state(x, () -> x.equivalent(0, 0, 2, 101));
-        check.state(x, () -> x.equivalent(1, 0, 1, 1));
+        check.state(() -> x.equivalent(0, 0, 1, 51));
+        check.state(() -> x.equivalent(0, 0, 2, 101));
+        check.state(() -> x.equivalent(1, 0, 1, 1));
         x.species(0, 2, 1000000);
-        check.state(x, () -> x.equivalent(0, 0, 1, 26));
+        check.state(() -> x.equivalent(0, 0, 1, 26));
         check.due(2, x.equivalent(0, 0, 1, 25));
         check.due(0, x.account(1, 0, 1, LEFT));
-        check.state(x, () -> x.equivalent(0, 0, 1, 1));
-        check.state(x, () -> x.equivalent(0, 0, 2, 76));
+        check.state(() -> x.equivalent(0, 0, 1, 1));
+        check.state(() -> x.equivalent(0, 0, 2, 76));
         check.due(3, x.equivalent(0, 0, 2, 75));
         check.due(0, x.account(1, 0, 0, CHARGED));
         // What came by a lease is left too.
         x.lease(1, 1, 0, 10);
         x.land(1, 0, 3, 0, 11, false);
-        check.state(x, () -> x.equivalent(0, 3, 1, 11));
+        check.state(() -> x.equivalent(0, 3, 1, 11));
         check.due(6, x.equivalent(0, 3, 1, 10));
     }
 
@@ -305,30 +305,30 @@ public final class EventsTest {
         }
         check.due(199, x.lease(0, 1, 2, 1));
         check.due(200, x.about(2));
-        check.state(x, () -> x.land(1, 0, 0, 0, 1, false));
-        check.state(x, () -> x.lease(0, 1, 2, 1));
-        check.state(x, () -> x.equivalent(0, 0, 1, 1));
-        check.argument(x, () -> x.land(1, 0, 0, 0, 0, false));
-        check.argument(x, () -> x.lease(0, 1, 1, 1));
-        check.argument(x, () -> x.equivalent(0, 0, 1, 0));
+        check.state(() -> x.land(1, 0, 0, 0, 1, false));
+        check.state(() -> x.lease(0, 1, 2, 1));
+        check.state(() -> x.equivalent(0, 0, 1, 1));
+        check.argument(() -> x.land(1, 0, 0, 0, 0, false));
+        check.argument(() -> x.lease(0, 1, 1, 1));
+        check.argument(() -> x.equivalent(0, 0, 1, 0));
         // A strike makes no room: the event is still there.
         x.strike(198);
-        check.state(x, () -> x.land(1, 0, 0, 0, 1, false));
+        check.state(() -> x.land(1, 0, 0, 0, 1, false));
         check.due(200, x.about(2));
         check.due(199, x.about(3));
         check.due(198, x.account(1, 0, 0, CHARGED));
-        check.index(x, () -> x.event(200, 0));
+        check.index(() -> x.event(200, 0));
         check.due(0, x.event(199, 0));
         x.end();
         x.reopen(1);
-        check.state(x, () -> x.land(1, 0, 0, 0, 1, false));
+        check.state(() -> x.land(1, 0, 0, 0, 1, false));
     }
 
     private static void promise20Event(Check check) {
         QuotaRegister x = opened();
-        check.index(x, () -> x.event(0, 0));
-        check.index(x, () -> x.event(-1, 0));
-        check.index(x, () -> x.event(0, 9));
+        check.index(() -> x.event(0, 0));
+        check.index(() -> x.event(-1, 0));
+        check.index(() -> x.event(0, 9));
         x.species(0, 3, 1000000);
         x.factor(0, 1, 2000);
         x.lease(1, 0, 1, 250);
@@ -347,13 +347,13 @@ public final class EventsTest {
         check.due(0, x.event(3, 2));
         check.due(9, x.event(3, 3));
         check.due(1, x.event(3, 0));
-        check.index(x, () -> x.event(4, 0));
-        check.index(x, () -> x.event(4, 4));
-        check.index(x, () -> x.event(MIN, MIN));
-        check.index(x, () -> x.event(MAX, 0));
-        check.argument(x, () -> x.event(3, 4));
-        check.argument(x, () -> x.event(3, -1));
-        check.argument(x, () -> x.event(0, MAX));
+        check.index(() -> x.event(4, 0));
+        check.index(() -> x.event(4, 4));
+        check.index(() -> x.event(MIN, MIN));
+        check.index(() -> x.event(MAX, 0));
+        check.argument(() -> x.event(3, 4));
+        check.argument(() -> x.event(3, -1));
+        check.argument(() -> x.event(0, MAX));
     }
 
     private static void promise21About(Check check) {
@@ -374,9 +374,9 @@ public final class EventsTest {
         check.due(2, x.about(0));
         check.due(1, x.about(1));
         check.due(2, x.about(2));
-        check.argument(x, () -> x.about(4));
-        check.argument(x, () -> x.about(-1));
-        check.argument(x, () -> x.about(MIN));
-        check.argument(x, () -> x.about(MAX));
+        check.argument(() -> x.about(4));
+        check.argument(() -> x.about(-1));
+        check.argument(() -> x.about(MIN));
+        check.argument(() -> x.about(MAX));
     }
 }

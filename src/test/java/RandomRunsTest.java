@@ -1,21 +1,16 @@
-import java.lang.reflect.InvocationTargetException;
-import java.lang.reflect.Method;
-import java.lang.reflect.Modifier;
 import java.util.ArrayList;
-import java.util.Arrays;
-import java.util.HashMap;
 import java.util.List;
 import java.util.Map;
 import java.util.Random;
 import java.util.TreeMap;
 
 /**
- * Draws long runs of calls, the same ones each time, and compares each answer with PlainRegister's.
- * With any argument it prints how often each kind of answer was due.
+ * Draws runs of calls, the same ones each time, and compares each answer with PlainRegister's; then all
+ * that a register can be asked for. With any argument it prints how often each kind of answer was due.
  */
 public final class RandomRunsTest {
-    private static final int RUNS = 400;
-    private static final int CALLS = 512;
+    private static final int RUNS = 600;
+    private static final int MOST_CALLS = 512;
     private static final int[] EDGES = {Integer.MIN_VALUE, -1, 0, 1, 4, 6, 9, 1000, 1001, 5001, 1000000, 1000001,
         Integer.MAX_VALUE};
     private static final String[] BEFORE = {"issue", "place", "species", "factor", "link", "vessel", "sell", "unlink",
@@ -28,22 +23,22 @@ public final class RandomRunsTest {
     private final Random random;
     private final QuotaRegister x = new QuotaRegister();
     private final PlainRegister plain = new PlainRegister();
-    private final Map<String, Method> real = methods(QuotaRegister.class);
-    private final Map<String, Method> model = methods(PlainRegister.class);
-    private final List<String> calls = new ArrayList<>();
+    private final List<Call> calls = new ArrayList<>();
+    private final Map<String, Integer> seen;
     private final int scale;
 
-    private RandomRunsTest(int seed) {
+    private RandomRunsTest(int seed, Map<String, Integer> seen) {
         random = new Random(seed);
         scale = new int[] {60, 2000, 20000, 1000000}[seed % 4];
+        this.seen = seen;
     }
 
     public static void main(String[] args) {
         Map<String, Integer> seen = new TreeMap<>();
         for (int seed = 1; seed <= RUNS; seed++) {
-            RandomRunsTest test = new RandomRunsTest(seed);
-            if (!test.run(seen)) {
-                System.out.println("seed " + seed + ": the last answer of these is due: " + test.calls);
+            RandomRunsTest test = new RandomRunsTest(seed, seen);
+            if (!test.run() || !test.agreesOnAll()) {
+                System.out.println("seed " + seed + ", behind these calls: " + test.calls);
                 System.exit(1);
             }
         }
@@ -52,61 +47,90 @@ public final class RandomRunsTest {
         }
     }
 
-    private boolean run(Map<String, Integer> seen) {
+    private boolean run() {
         for (int i = 0; i < 24; i++) {
             int parts = 100000 + random.nextInt(66000);
             // Two vessels stay empty at first, so that they can change owners.
             int placed = i % 6 < 4 ? parts - random.nextInt(20000) : 0;
-            if (!agree("issue", of(i / 6, i % 6, parts), seen)
-                    || !agree("place", of(i / 6, i % 6, placed), seen)) {
+            if (!agrees("issue", i / 6, i % 6, parts) || !agrees("place", i / 6, i % 6, placed)) {
                 return false;
             }
         }
         int before = 60 + random.nextInt(20);
-        for (int i = 48; i < CALLS; i++) {
-            String name = i < before ? any(BEFORE) : nextCall();
-            if (!agree(name, arguments(name), seen)) {
-                return false;
-            }
-            if (i % 32 == 31 && !agreeOnAll(seen)) {
+        // Some calls stay for questions.
+        int all = 80 + random.nextInt(MOST_CALLS - 100);
+        while (calls.size() < all) {
+            String name = calls.size() < before ? any(BEFORE) : nextCall();
+            if (!agrees(name, arguments(name))) {
                 return false;
             }
         }
         return true;
     }
 
-    private boolean agree(String name, Object[] arguments, Map<String, Integer> seen) {
-        String got = answer(real.get(name), x, arguments);
-        String due = answer(model.get(name), plain, arguments);
-        calls.add(name + Arrays.toString(arguments) + " " + due);
-        seen.merge(name + (due.startsWith("class") ? " " + due : ""), 1, Integer::sum);
+    private boolean agrees(String name, Object... arguments) {
+        Call call = Call.of(name, arguments);
+        boolean same = same(call, x);
+        calls.add(call);
+        return same;
+    }
+
+    private boolean same(Call call, QuotaRegister register) {
+        String got = call.on(register);
+        String due = call.on(plain);
+        seen.merge(call.toString().replaceAll("\\(.*", "") + (due.startsWith("throws") ? " " + due : ""), 1,
+                Integer::sum);
         if (!got.equals(due)) {
-            System.out.println(name + Arrays.toString(arguments) + " answered " + got + ", due is " + due);
+            System.out.println(call + " answered " + got + ", due is " + due);
         }
         return got.equals(due);
     }
 
-    private boolean agreeOnAll(Map<String, Integer> seen) {
-        int length = calls.size();
-        boolean same = agree("about", of(3), seen);
-        for (int i = 0; i < 4 * 6 * 3; i++) {
-            same &= agree("held", of(i / 18, i / 3 % 6, i % 3), seen);
+    /** No object is good for so many questions, so others are made with the same calls. */
+    private boolean agreesOnAll() {
+        QuotaRegister asked = x;
+        int made = calls.size();
+        for (Call question : questions()) {
+            if (made == MOST_CALLS) {
+                asked = sameAgain();
+                made = calls.size();
+            }
+            made++;
+            if (!same(question, asked)) {
+                return false;
+            }
         }
-        for (int i = 0; i < plain.about(2); i++) {
-            same &= agree("event", of(i, 2), seen);
+        return true;
+    }
+
+    private QuotaRegister sameAgain() {
+        QuotaRegister again = new QuotaRegister();
+        for (Call call : calls) {
+            call.on(again);
+        }
+        return again;
+    }
+
+    private List<Call> questions() {
+        List<Call> questions = new ArrayList<>();
+        for (int what = 0; what < 4; what++) {
+            questions.add(Call.of("about", what));
+        }
+        for (int i = 0; i < 4 * 6 * 3; i++) {
+            questions.add(Call.of("held", i / 18, i / 3 % 6, i % 3));
+        }
+        for (int i = 0; i < plain.about(2) * 4; i++) {
+            questions.add(Call.of("event", i / 4, i % 4));
         }
         for (int year = 1; year <= plain.about(0); year++) {
             for (int i = 0; i < 6 * 4 * 9; i++) {
-                same &= agree("account", of(year, i / 36, i / 9 % 4, i % 9), seen);
+                questions.add(Call.of("account", year, i / 36, i / 9 % 4, i % 9));
             }
             for (int owner = 0; owner < 6; owner++) {
-                same &= agree("levy", of(owner, year), seen);
+                questions.add(Call.of("levy", owner, year));
             }
         }
-        if (same) {
-            calls.subList(length, calls.size()).clear();
-        }
-        return same;
+        return questions;
     }
 
     private String nextCall() {
@@ -119,26 +143,6 @@ public final class RandomRunsTest {
 
     private String any(String[] names) {
         return names[random.nextInt(names.length)];
-    }
-
-    private static Map<String, Method> methods(Class<?> of) {
-        Map<String, Method> methods = new HashMap<>();
-        for (Method method : of.getDeclaredMethods()) {
-            if (Modifier.isPublic(method.getModifiers())) {
-                methods.put(method.getName(), method);
-            }
-        }
-        return methods;
-    }
-
-    private static String answer(Method method, Object on, Object[] arguments) {
-        try {
-            return String.valueOf(method.invoke(on, arguments));
-        } catch (InvocationTargetException e) {
-            return e.getCause().getClass().toString();
-        } catch (IllegalAccessException e) {
-            throw new AssertionError(e);
-        }
     }
 
     private Object[] arguments(String name) {
@@ -178,7 +182,7 @@ public final class RandomRunsTest {
             case "lease":
                 return of(s, a, b, near(now(a, s, 5)));
             case "land":
-                return new Object[] {year(), a, s, random.nextInt(3), kilogramsToLand(a, s), random.nextInt(4) == 0};
+                return of(year(), a, s, random.nextInt(3), kilogramsToLand(a, s), random.nextInt(4) == 0);
             case "equivalent":
                 return equivalentArguments(a);
             case "strike":
@@ -200,8 +204,8 @@ public final class RandomRunsTest {
         }
     }
 
-    private static Object[] of(Integer... numbers) {
-        return Arrays.copyOf(numbers, numbers.length, Object[].class);
+    private static Object[] of(Object... arguments) {
+        return arguments;
     }
 
     private int limit() {

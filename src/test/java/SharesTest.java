@@ -40,7 +40,7 @@ public final class SharesTest {
                 int first = a;
                 int second = b;
                 if (a != b) {
-                    check.state(x, () -> x.unlink(first, second));
+                    check.state(() -> x.unlink(first, second));
                 }
             }
         }
@@ -68,24 +68,24 @@ public final class SharesTest {
         QuotaRegister x = new QuotaRegister();
         x.species(0, 1, 0);
         x.species(3, 1000, 1000000);
-        check.argument(x, () -> x.species(-1, 1, 5));
-        check.argument(x, () -> x.species(4, 1, 5));
-        check.argument(x, () -> x.species(MIN, 1, 5));
-        check.argument(x, () -> x.species(MAX, 1, 5));
-        check.argument(x, () -> x.species(0, 0, 5));
-        check.argument(x, () -> x.species(0, -1, 5));
-        check.argument(x, () -> x.species(0, 1001, 5));
-        check.argument(x, () -> x.species(0, 1, -1));
-        check.argument(x, () -> x.species(0, 1, 1000001));
-        check.argument(x, () -> x.species(0, MAX, MAX));
-        check.state(x, () -> x.issue(0, 0, 1));
+        check.argument(() -> x.species(-1, 1, 5));
+        check.argument(() -> x.species(4, 1, 5));
+        check.argument(() -> x.species(MIN, 1, 5));
+        check.argument(() -> x.species(MAX, 1, 5));
+        check.argument(() -> x.species(0, 0, 5));
+        check.argument(() -> x.species(0, -1, 5));
+        check.argument(() -> x.species(0, 1001, 5));
+        check.argument(() -> x.species(0, 1, -1));
+        check.argument(() -> x.species(0, 1, 1000001));
+        check.argument(() -> x.species(0, MAX, MAX));
+        check.state(() -> x.issue(0, 0, 1));
         x.species(0, 7, 10);
         check.due(10, x.issue(0, 0, 10));
-        check.state(x, () -> x.issue(0, 0, 1));
+        check.state(() -> x.issue(0, 0, 1));
         // Neither value nor cap changes when the call throws.
-        check.argument(x, () -> x.species(0, 8, 9));
-        check.argument(x, () -> x.species(0, 1001, 20));
-        check.state(x, () -> x.issue(0, 0, 1));
+        check.argument(() -> x.species(0, 8, 9));
+        check.argument(() -> x.species(0, 1001, 20));
+        check.state(() -> x.issue(0, 0, 1));
         x.open(0, 0, 0, 0);
         x.land(1, 0, 0, 0, 3, false);
         x.land(1, 0, 3, 0, 2, false);
@@ -103,24 +103,24 @@ public final class SharesTest {
         x.issue(2, 1, 40);
         x.issue(2, 5, 60);
         x.link(0, 1);
-        check.argument(x, () -> x.species(2, 1, 69));
+        check.argument(() -> x.species(2, 1, 69));
         x.species(2, 1, 70);
         x.unlink(1, 0);
         x.species(2, 1, 60);
-        check.argument(x, () -> x.species(2, 1, 59));
-        check.state(x, () -> x.link(0, 1));
+        check.argument(() -> x.species(2, 1, 59));
+        check.state(() -> x.link(0, 1));
     }
 
     private static void promise3Factor(Check check) {
         QuotaRegister x = new QuotaRegister();
-        check.argument(x, () -> x.factor(-1, 0, 5));
-        check.argument(x, () -> x.factor(4, 0, 5));
-        check.argument(x, () -> x.factor(MIN, 0, 5));
-        check.argument(x, () -> x.factor(0, -1, 5));
-        check.argument(x, () -> x.factor(0, 3, 5));
-        check.argument(x, () -> x.factor(0, MAX, 5));
-        check.argument(x, () -> x.factor(0, 0, -1));
-        check.argument(x, () -> x.factor(0, 0, 5001));
+        check.argument(() -> x.factor(-1, 0, 5));
+        check.argument(() -> x.factor(4, 0, 5));
+        check.argument(() -> x.factor(MIN, 0, 5));
+        check.argument(() -> x.factor(0, -1, 5));
+        check.argument(() -> x.factor(0, 3, 5));
+        check.argument(() -> x.factor(0, MAX, 5));
+        check.argument(() -> x.factor(0, 0, -1));
+        check.argument(() -> x.factor(0, 0, 5001));
         x.open(0, 0, 0, 0);
         x.factor(3, 2, 5000);
         x.factor(1, 1, 0);
@@ -129,37 +129,37 @@ public final class SharesTest {
         check.due(2, x.event(x.land(1, 0, 3, 1, 2, false), 3));
         check.due(2, x.event(x.land(1, 0, 2, 2, 2, false), 3));
         check.due(2, x.event(x.land(1, 0, 1, 0, 2000, false), 3));
-        check.argument(x, () -> x.land(1, 0, 1, 1, 2, false));
+        check.argument(() -> x.land(1, 0, 1, 1, 2, false));
         x.factor(1, 1, 1500);
         check.due(3, x.event(x.land(1, 0, 1, 1, 2, false), 3));
     }
 
     private static void promise4Vessel(Check check) {
         QuotaRegister x = new QuotaRegister();
-        check.argument(x, () -> x.vessel(-1, 0));
-        check.argument(x, () -> x.vessel(6, 0));
-        check.argument(x, () -> x.vessel(0, -1));
-        check.argument(x, () -> x.vessel(0, 6));
-        check.argument(x, () -> x.vessel(MIN, MAX));
+        check.argument(() -> x.vessel(-1, 0));
+        check.argument(() -> x.vessel(6, 0));
+        check.argument(() -> x.vessel(0, -1));
+        check.argument(() -> x.vessel(0, 6));
+        check.argument(() -> x.vessel(MIN, MAX));
         x.issue(3, 0, 10);
-        check.state(x, () -> x.place(3, 5, 1));
+        check.state(() -> x.place(3, 5, 1));
         x.vessel(5, 0);
         check.due(4, x.place(3, 5, 4));
         check.due(6, x.place(3, 0, 6));
-        check.state(x, () -> x.vessel(5, 1));
-        check.state(x, () -> x.vessel(5, 0));
-        check.argument(x, () -> x.vessel(5, 6));
+        check.state(() -> x.vessel(5, 1));
+        check.state(() -> x.vessel(5, 0));
+        check.argument(() -> x.vessel(5, 6));
         check.due(0, x.place(3, 5, -4));
         x.vessel(5, 1);
-        check.state(x, () -> x.place(3, 5, 1));
+        check.state(() -> x.place(3, 5, 1));
         check.due(10, x.place(3, 0, 4));
-        check.state(x, () -> x.vessel(0, 0));
+        check.state(() -> x.vessel(0, 0));
         x.vessel(1, 1);
         // One part of any species is enough to keep a vessel.
         for (int s = 0; s < 3; s++) {
             x.issue(s, 2, 1);
             x.place(s, 2, 1);
-            check.state(x, () -> x.vessel(2, 3));
+            check.state(() -> x.vessel(2, 3));
             x.place(s, 2, -1);
             x.vessel(2, 3);
             x.vessel(2, 2);
@@ -168,12 +168,12 @@ public final class SharesTest {
 
     private static void promise5Link(Check check) {
         QuotaRegister x = new QuotaRegister();
-        check.argument(x, () -> x.link(0, 0));
-        check.argument(x, () -> x.link(-1, 0));
-        check.argument(x, () -> x.link(0, -1));
-        check.argument(x, () -> x.link(6, 0));
-        check.argument(x, () -> x.link(0, 6));
-        check.argument(x, () -> x.link(MIN, MAX));
+        check.argument(() -> x.link(0, 0));
+        check.argument(() -> x.link(-1, 0));
+        check.argument(() -> x.link(0, -1));
+        check.argument(() -> x.link(6, 0));
+        check.argument(() -> x.link(0, 6));
+        check.argument(() -> x.link(MIN, MAX));
         for (int owner = 0; owner < 6; owner++) {
             x.issue(1, owner, 1 << owner);
         }
@@ -192,18 +192,18 @@ public final class SharesTest {
         x.link(1, 3);
         x.link(3, 1);
         x.unlink(1, 3);
-        check.state(x, () -> x.unlink(3, 1));
+        check.state(() -> x.unlink(3, 1));
         check.due(2, x.held(1, 1, 2));
         check.due(61, x.held(1, 5, 2));
         x.species(1, 1, 62);
-        check.state(x, () -> x.link(1, 5));
-        check.state(x, () -> x.link(3, 1));
+        check.state(() -> x.link(1, 5));
+        check.state(() -> x.link(3, 1));
         x.species(1, 1, 63);
         x.link(1, 5);
         check.due(63, x.held(1, 1, 2));
         // Within a group that is at its cap a further link adds nothing.
         x.link(1, 2);
-        check.argument(x, () -> x.link(1, 1));
+        check.argument(() -> x.link(1, 1));
     }
 
     private static void promise5LinkLooksAtEverySpecies(Check check) {
@@ -213,9 +213,9 @@ public final class SharesTest {
             x.issue(s, 1, 5);
             x.issue(s, 2, 4);
             x.species(s, 1, 10);
-            check.state(x, () -> x.link(0, 1));
+            check.state(() -> x.link(0, 1));
             x.link(0, 2);
-            check.state(x, () -> x.link(2, 1));
+            check.state(() -> x.link(2, 1));
             check.due(10, x.held(s, 2, 2));
             check.due(5, x.held(s, 1, 2));
         }
@@ -239,26 +239,26 @@ public final class SharesTest {
 
     private static void promise6Unlink(Check check) {
         QuotaRegister x = new QuotaRegister();
-        check.argument(x, () -> x.unlink(3, 3));
-        check.argument(x, () -> x.unlink(-1, 3));
-        check.argument(x, () -> x.unlink(3, -1));
-        check.argument(x, () -> x.unlink(6, 3));
-        check.argument(x, () -> x.unlink(3, 6));
-        check.state(x, () -> x.unlink(3, 4));
+        check.argument(() -> x.unlink(3, 3));
+        check.argument(() -> x.unlink(-1, 3));
+        check.argument(() -> x.unlink(3, -1));
+        check.argument(() -> x.unlink(6, 3));
+        check.argument(() -> x.unlink(3, 6));
+        check.state(() -> x.unlink(3, 4));
         for (int owner = 0; owner < 6; owner++) {
             x.issue(0, owner, 1 << owner);
         }
         x.link(0, 1);
         x.link(1, 2);
         // In one group, but not linked with each other.
-        check.state(x, () -> x.unlink(0, 2));
-        check.state(x, () -> x.unlink(2, 0));
+        check.state(() -> x.unlink(0, 2));
+        check.state(() -> x.unlink(2, 0));
         x.link(2, 0);
         // A ring that is cut once still hangs together.
         x.unlink(1, 0);
         check.due(7, x.held(0, 0, 2));
         check.due(7, x.held(0, 1, 2));
-        check.state(x, () -> x.unlink(0, 1));
+        check.state(() -> x.unlink(0, 1));
         x.unlink(1, 2);
         check.due(5, x.held(0, 0, 2));
         check.due(2, x.held(0, 1, 2));
@@ -267,26 +267,26 @@ public final class SharesTest {
 
     private static void promise7Issue(Check check) {
         QuotaRegister x = new QuotaRegister();
-        check.argument(x, () -> x.issue(-1, 0, 1));
-        check.argument(x, () -> x.issue(4, 0, 1));
-        check.argument(x, () -> x.issue(0, -1, 1));
-        check.argument(x, () -> x.issue(0, 6, 1));
-        check.argument(x, () -> x.issue(0, 0, 0));
-        check.argument(x, () -> x.issue(0, 0, -1));
-        check.argument(x, () -> x.issue(0, 0, 1000001));
-        check.argument(x, () -> x.issue(0, 0, MAX));
+        check.argument(() -> x.issue(-1, 0, 1));
+        check.argument(() -> x.issue(4, 0, 1));
+        check.argument(() -> x.issue(0, -1, 1));
+        check.argument(() -> x.issue(0, 6, 1));
+        check.argument(() -> x.issue(0, 0, 0));
+        check.argument(() -> x.issue(0, 0, -1));
+        check.argument(() -> x.issue(0, 0, 1000001));
+        check.argument(() -> x.issue(0, 0, MAX));
         check.due(1, x.issue(0, 0, 1));
         check.due(999999, x.issue(0, 0, 999998));
-        check.state(x, () -> x.issue(0, 3, 2));
-        check.state(x, () -> x.issue(0, 3, 1000000));
+        check.state(() -> x.issue(0, 3, 2));
+        check.state(() -> x.issue(0, 3, 1000000));
         check.due(1, x.issue(0, 3, 1));
-        check.state(x, () -> x.issue(0, 4, 1));
+        check.state(() -> x.issue(0, 4, 1));
         check.due(1000000, x.issue(1, 5, 1000000));
         x.open(0, 0, 0, 0);
-        check.state(x, () -> x.issue(2, 0, 1));
-        check.argument(x, () -> x.issue(2, 0, 0));
+        check.state(() -> x.issue(2, 0, 1));
+        check.argument(() -> x.issue(2, 0, 0));
         x.end();
-        check.state(x, () -> x.issue(2, 0, 1));
+        check.state(() -> x.issue(2, 0, 1));
     }
 
     private static void promise7IssueLooksAtGroups(Check check) {
@@ -294,45 +294,45 @@ public final class SharesTest {
         x.species(2, 1, 100);
         x.link(1, 3);
         check.due(60, x.issue(2, 1, 60));
-        check.state(x, () -> x.issue(2, 3, 41));
+        check.state(() -> x.issue(2, 3, 41));
         check.due(40, x.issue(2, 3, 40));
-        check.state(x, () -> x.issue(2, 1, 1));
+        check.state(() -> x.issue(2, 1, 1));
         check.due(100, x.issue(2, 2, 100));
-        check.state(x, () -> x.issue(2, 2, 1));
+        check.state(() -> x.issue(2, 2, 1));
         check.due(101, x.issue(1, 1, 101));
     }
 
     private static void promise8Sell(Check check) {
         QuotaRegister x = new QuotaRegister();
         x.issue(1, 0, 100);
-        check.argument(x, () -> x.sell(-1, 0, 1, 5));
-        check.argument(x, () -> x.sell(4, 0, 1, 5));
-        check.argument(x, () -> x.sell(1, -1, 1, 5));
-        check.argument(x, () -> x.sell(1, 6, 1, 5));
-        check.argument(x, () -> x.sell(1, 0, -1, 5));
-        check.argument(x, () -> x.sell(1, 0, 6, 5));
-        check.argument(x, () -> x.sell(1, 0, 0, 5));
-        check.argument(x, () -> x.sell(1, 0, 1, 0));
-        check.argument(x, () -> x.sell(1, 0, 1, -5));
-        check.argument(x, () -> x.sell(1, 0, 1, 1000001));
-        check.argument(x, () -> x.sell(1, 0, 1, MIN));
-        check.state(x, () -> x.sell(0, 0, 1, 1));
-        check.state(x, () -> x.sell(1, 1, 0, 1));
-        check.state(x, () -> x.sell(1, 0, 1, 101));
+        check.argument(() -> x.sell(-1, 0, 1, 5));
+        check.argument(() -> x.sell(4, 0, 1, 5));
+        check.argument(() -> x.sell(1, -1, 1, 5));
+        check.argument(() -> x.sell(1, 6, 1, 5));
+        check.argument(() -> x.sell(1, 0, -1, 5));
+        check.argument(() -> x.sell(1, 0, 6, 5));
+        check.argument(() -> x.sell(1, 0, 0, 5));
+        check.argument(() -> x.sell(1, 0, 1, 0));
+        check.argument(() -> x.sell(1, 0, 1, -5));
+        check.argument(() -> x.sell(1, 0, 1, 1000001));
+        check.argument(() -> x.sell(1, 0, 1, MIN));
+        check.state(() -> x.sell(0, 0, 1, 1));
+        check.state(() -> x.sell(1, 1, 0, 1));
+        check.state(() -> x.sell(1, 0, 1, 101));
         x.place(1, 0, 30);
-        check.state(x, () -> x.sell(1, 0, 1, 71));
+        check.state(() -> x.sell(1, 0, 1, 71));
         x.sell(1, 0, 1, 20);
         check.due(80, x.held(1, 0, 0));
         check.due(50, x.held(1, 0, 1));
         check.due(20, x.held(1, 1, 0));
         x.sell(1, 0, 1, 50);
-        check.state(x, () -> x.sell(1, 0, 1, 1));
+        check.state(() -> x.sell(1, 0, 1, 1));
         check.due(30, x.held(1, 0, 0));
         x.species(1, 1, 80);
         x.sell(1, 1, 2, 70);
-        check.state(x, () -> x.sell(1, 1, 2, 1));
+        check.state(() -> x.sell(1, 1, 2, 1));
         x.place(1, 0, -30);
-        check.state(x, () -> x.sell(1, 0, 2, 11));
+        check.state(() -> x.sell(1, 0, 2, 11));
         // Selling goes on when a year was opened.
         x.open(0, 0, 0, 0);
         x.sell(1, 0, 2, 10);
@@ -351,7 +351,7 @@ public final class SharesTest {
         // The group is at its cap: parts may go round in it, but none may come in.
         x.sell(0, 0, 2, 60);
         check.due(100, x.held(0, 2, 0));
-        check.state(x, () -> x.sell(0, 4, 1, 1));
+        check.state(() -> x.sell(0, 4, 1, 1));
         x.sell(0, 2, 3, 100);
         x.sell(0, 4, 1, 100);
         check.due(100, x.held(0, 0, 2));
@@ -360,34 +360,34 @@ public final class SharesTest {
 
     private static void promise9Place(Check check) {
         QuotaRegister x = new QuotaRegister();
-        check.argument(x, () -> x.place(-1, 0, 1));
-        check.argument(x, () -> x.place(4, 0, 1));
-        check.argument(x, () -> x.place(0, -1, 1));
-        check.argument(x, () -> x.place(0, 6, 1));
-        check.argument(x, () -> x.place(MAX, MIN, 1));
+        check.argument(() -> x.place(-1, 0, 1));
+        check.argument(() -> x.place(4, 0, 1));
+        check.argument(() -> x.place(0, -1, 1));
+        check.argument(() -> x.place(0, 6, 1));
+        check.argument(() -> x.place(MAX, MIN, 1));
         check.due(0, x.place(0, 0, 0));
-        check.state(x, () -> x.place(0, 0, 1));
-        check.state(x, () -> x.place(0, 0, -1));
+        check.state(() -> x.place(0, 0, 1));
+        check.state(() -> x.place(0, 0, -1));
         x.issue(0, 2, 100);
         x.issue(1, 2, 5);
         x.vessel(4, 2);
         check.due(60, x.place(0, 2, 60));
         check.due(40, x.held(0, 2, 1));
-        check.state(x, () -> x.place(0, 4, 41));
-        check.state(x, () -> x.place(0, 3, 1));
+        check.state(() -> x.place(0, 4, 41));
+        check.state(() -> x.place(0, 3, 1));
         check.due(40, x.place(0, 4, 40));
-        check.state(x, () -> x.place(0, 2, 1));
+        check.state(() -> x.place(0, 2, 1));
         check.due(60, x.place(0, 2, 0));
-        check.state(x, () -> x.place(0, 4, -41));
-        check.state(x, () -> x.place(0, 4, MIN));
-        check.state(x, () -> x.place(0, 4, MAX));
+        check.state(() -> x.place(0, 4, -41));
+        check.state(() -> x.place(0, 4, MIN));
+        check.state(() -> x.place(0, 4, MAX));
         check.due(1, x.place(0, 4, -39));
         check.due(0, x.place(0, 4, -1));
         check.due(100, x.place(0, 2, 40));
         check.due(5, x.place(1, 2, 5));
         // What others of the group hold is not the owner's.
         x.link(2, 3);
-        check.state(x, () -> x.place(0, 3, 1));
+        check.state(() -> x.place(0, 3, 1));
         x.open(0, 0, 0, 0);
         check.due(90, x.place(0, 2, -10));
     }
@@ -412,12 +412,12 @@ public final class SharesTest {
         check.due(0, x.held(2, 0, 0));
         check.due(0, x.held(2, 0, 1));
         check.due(0, x.held(2, 0, 2));
-        check.argument(x, () -> x.held(-1, 1, 0));
-        check.argument(x, () -> x.held(4, 1, 0));
-        check.argument(x, () -> x.held(2, -1, 0));
-        check.argument(x, () -> x.held(2, 6, 0));
-        check.argument(x, () -> x.held(2, 1, -1));
-        check.argument(x, () -> x.held(2, 1, 3));
-        check.argument(x, () -> x.held(MIN, MAX, MAX));
+        check.argument(() -> x.held(-1, 1, 0));
+        check.argument(() -> x.held(4, 1, 0));
+        check.argument(() -> x.held(2, -1, 0));
+        check.argument(() -> x.held(2, 6, 0));
+        check.argument(() -> x.held(2, 1, -1));
+        check.argument(() -> x.held(2, 1, 3));
+        check.argument(() -> x.held(MIN, MAX, MAX));
     }
 }

@@ -46,15 +46,15 @@ public final class YearsTest {
 
     private static void promise10Open(Check check) {
         QuotaRegister x = placed();
-        check.argument(x, () -> x.open(-1, 0, 0, 0));
-        check.argument(x, () -> x.open(0, -1, 0, 0));
-        check.argument(x, () -> x.open(0, 0, -1, 0));
-        check.argument(x, () -> x.open(0, 0, 0, -1));
-        check.argument(x, () -> x.open(1000001, 0, 0, 0));
-        check.argument(x, () -> x.open(0, 1000001, 0, 0));
-        check.argument(x, () -> x.open(0, 0, 1000001, 0));
-        check.argument(x, () -> x.open(0, 0, 0, 1000001));
-        check.argument(x, () -> x.open(MIN, MAX, MIN, MAX));
+        check.argument(() -> x.open(-1, 0, 0, 0));
+        check.argument(() -> x.open(0, -1, 0, 0));
+        check.argument(() -> x.open(0, 0, -1, 0));
+        check.argument(() -> x.open(0, 0, 0, -1));
+        check.argument(() -> x.open(1000001, 0, 0, 0));
+        check.argument(() -> x.open(0, 1000001, 0, 0));
+        check.argument(() -> x.open(0, 0, 1000001, 0));
+        check.argument(() -> x.open(0, 0, 0, 1000001));
+        check.argument(() -> x.open(MIN, MAX, MIN, MAX));
         check.due(1, x.open(10, 20, 0, 1000000));
         check.due(1, x.about(0));
         check.due(1, x.about(1));
@@ -65,8 +65,8 @@ public final class YearsTest {
             check.due(100000 * (v + 1), x.account(1, v, 3, ALLOTTED));
         }
         check.due(0, x.account(1, 5, 3, ALLOTTED));
-        check.state(x, () -> x.open(0, 0, 0, 0));
-        check.argument(x, () -> x.open(0, 0, 0, 1000001));
+        check.state(() -> x.open(0, 0, 0, 0));
+        check.argument(() -> x.open(0, 0, 0, 1000001));
         x.end();
         check.due(2, x.open(0, 0, 0, 0));
         check.due(0, x.account(2, 3, 3, ALLOTTED));
@@ -78,17 +78,17 @@ public final class YearsTest {
         for (int year = 1; year <= 8; year++) {
             check.due(year, x.open(1, 1, 1, 1));
             check.due(year, x.about(0));
-            check.state(x, () -> x.open(1, 1, 1, 1));
+            check.state(() -> x.open(1, 1, 1, 1));
             check.due(0, x.end());
         }
-        check.state(x, () -> x.open(1, 1, 1, 1));
-        check.argument(x, () -> x.open(1, -1, 1, 1));
-        check.state(x, () -> x.end());
+        check.state(() -> x.open(1, 1, 1, 1));
+        check.argument(() -> x.open(1, -1, 1, 1));
+        check.state(() -> x.end());
         check.due(8, x.about(0));
         check.due(0, x.about(1));
         x.reopen(8);
-        check.state(x, () -> x.open(1, 1, 1, 1));
-        check.state(x, () -> x.end());
+        check.state(() -> x.open(1, 1, 1, 1));
+        check.state(() -> x.end());
     }
 
     private static void promise10GreatestRemainders(Check check) {
@@ -191,7 +191,7 @@ public final class YearsTest {
 
     private static void promise11End(Check check) {
         QuotaRegister x = placed();
-        check.state(x, () -> x.end());
+        check.state(() -> x.end());
         x.open(100, 100, 0, 0);
         x.land(1, 0, 0, 0, 11, false);
         x.land(1, 5, 2, 0, 1, false);
@@ -205,7 +205,7 @@ public final class YearsTest {
         check.due(0, x.account(1, 3, 1, LEVIED));
         check.due(0, x.about(1));
         check.due(1, x.about(0));
-        check.state(x, () -> x.end());
+        check.state(() -> x.end());
         x.open(100, 100, 0, 0);
         // Only the levies of the year that ends are counted: 20 - 1 are left to vessel 1, 1 is over.
         x.land(2, 1, 1, 0, 20, false);
@@ -348,26 +348,26 @@ public final class YearsTest {
 
     private static void promise17WrongInputs(Check check) {
         QuotaRegister x = new QuotaRegister();
-        check.argument(x, () -> x.account(0, 0, 0, 0));
-        check.argument(x, () -> x.account(1, 0, 0, 0));
+        check.argument(() -> x.account(0, 0, 0, 0));
+        check.argument(() -> x.account(1, 0, 0, 0));
         x.open(0, 0, 0, 0);
         check.due(0, x.account(1, 5, 3, 8));
-        check.argument(x, () -> x.account(0, 0, 0, 0));
-        check.argument(x, () -> x.account(-1, 0, 0, 0));
-        check.argument(x, () -> x.account(2, 0, 0, 0));
-        check.argument(x, () -> x.account(1, -1, 0, 0));
-        check.argument(x, () -> x.account(1, 6, 0, 0));
-        check.argument(x, () -> x.account(1, 0, -1, 0));
-        check.argument(x, () -> x.account(1, 0, 4, 0));
-        check.argument(x, () -> x.account(1, 0, 0, -1));
-        check.argument(x, () -> x.account(1, 0, 0, 9));
-        check.argument(x, () -> x.account(MAX, MAX, MIN, MIN));
+        check.argument(() -> x.account(0, 0, 0, 0));
+        check.argument(() -> x.account(-1, 0, 0, 0));
+        check.argument(() -> x.account(2, 0, 0, 0));
+        check.argument(() -> x.account(1, -1, 0, 0));
+        check.argument(() -> x.account(1, 6, 0, 0));
+        check.argument(() -> x.account(1, 0, -1, 0));
+        check.argument(() -> x.account(1, 0, 4, 0));
+        check.argument(() -> x.account(1, 0, 0, -1));
+        check.argument(() -> x.account(1, 0, 0, 9));
+        check.argument(() -> x.account(MAX, MAX, MIN, MIN));
     }
 
     private static void promise18Levy(Check check) {
         QuotaRegister x = new QuotaRegister();
-        check.argument(x, () -> x.levy(0, 0));
-        check.argument(x, () -> x.levy(0, 1));
+        check.argument(() -> x.levy(0, 0));
+        check.argument(() -> x.levy(0, 1));
         x.open(0, 0, 0, 0);
         x.land(1, 0, 0, 0, 3, false);
         x.land(1, 0, 1, 0, 50, false);
@@ -392,11 +392,11 @@ public final class YearsTest {
         check.due(1, x.end());
         check.due(4, x.levy(5, 2));
         check.due(503, x.levy(5, 1));
-        check.argument(x, () -> x.levy(-1, 1));
-        check.argument(x, () -> x.levy(6, 1));
-        check.argument(x, () -> x.levy(0, 0));
-        check.argument(x, () -> x.levy(0, 3));
-        check.argument(x, () -> x.levy(MIN, MAX));
+        check.argument(() -> x.levy(-1, 1));
+        check.argument(() -> x.levy(6, 1));
+        check.argument(() -> x.levy(0, 0));
+        check.argument(() -> x.levy(0, 3));
+        check.argument(() -> x.levy(MIN, MAX));
     }
 
     private static void promise18LargeLevy(Check check) {
