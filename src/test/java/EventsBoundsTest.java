@@ -193,21 +193,7 @@ public final class EventsBoundsTest {
             event(0, 1) = 1
             event(1, 1) = 2
             """);
-        runs.run("promise 13: year 8, and no ninth", """
-            open(0, 0, 0, 0)
-            end()
-            open(0, 0, 0, 0)
-            end()
-            open(0, 0, 0, 0)
-            end()
-            open(0, 0, 0, 0)
-            end()
-            open(0, 0, 0, 0)
-            end()
-            open(0, 0, 0, 0)
-            end()
-            open(0, 0, 0, 0)
-            end()
+        runs.run("promise 13: year 8, and no ninth", Runs.SEVEN_YEARS + """
             land(8, 0, 0, 0, 1, false) throws IllegalArgument
             open(0, 0, 0, 0)
             land(8, 0, 0, 0, 1, false) = 0

@@ -35,15 +35,24 @@ public final class FaceTest {
         "int about(int)" + A,
     };
 
+    private int wrong = 0;
+
     public static void main(String[] args) {
-        Check check = new Check();
-        sameFace(check);
-        nothingElseIsSeen(check);
-        check.due(-1, QuotaRegister.NONE);
-        check.finish();
+        FaceTest test = new FaceTest();
+        test.sameFace();
+        test.nothingElseIsSeen();
+        if (QuotaRegister.NONE != -1) {
+            test.complain("NONE is " + QuotaRegister.NONE);
+        }
+        System.exit(test.wrong == 0 ? 0 : 1);
     }
 
-    private static void sameFace(Check check) {
+    private void complain(String what) {
+        wrong++;
+        System.out.println(what);
+    }
+
+    private void sameFace() {
         Set<String> seen = new TreeSet<>();
         for (Method method : QuotaRegister.class.getDeclaredMethods()) {
             if (!Modifier.isPrivate(method.getModifiers())) {
@@ -52,23 +61,23 @@ public final class FaceTest {
         }
         Set<String> face = new TreeSet<>(List.of(FACE));
         if (!seen.equals(face)) {
-            check.complain("the methods are " + seen + ", due are " + face);
+            complain("the methods are " + seen + ", due are " + face);
         }
         int modifiers = QuotaRegister.class.getModifiers();
         if (!Modifier.isPublic(modifiers) || !Modifier.isFinal(modifiers)) {
-            check.complain("the class is not public and final");
+            complain("the class is not public and final");
         }
     }
 
-    private static void nothingElseIsSeen(Check check) {
+    private void nothingElseIsSeen() {
         for (Field field : QuotaRegister.class.getDeclaredFields()) {
             if (!Modifier.isPrivate(field.getModifiers()) && !field.getName().equals("NONE")) {
-                check.complain("field " + field.getName() + " can be seen");
+                complain("field " + field.getName() + " can be seen");
             }
         }
         for (Constructor<?> constructor : QuotaRegister.class.getDeclaredConstructors()) {
             if (constructor.getParameterCount() != 0 || !Modifier.isPublic(constructor.getModifiers())) {
-                check.complain("another constructor: " + constructor);
+                complain("another constructor: " + constructor);
             }
         }
         Set<String> names = new HashSet<>();
@@ -82,7 +91,7 @@ public final class FaceTest {
         }
         for (String name : hidden) {
             if (names.contains(name)) {
-                check.complain("a private method bears the public name " + name);
+                complain("a private method bears the public name " + name);
             }
         }
     }

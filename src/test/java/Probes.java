@@ -7,6 +7,8 @@ import java.util.List;
  */
 final class Probes {
     static final int COUNT = 46;
+    /** No probe makes more. */
+    static final int MOST_CALLS = 225;
 
     private final QuotaRegister x;
     private final List<String> answers = new ArrayList<>();
@@ -18,6 +20,9 @@ final class Probes {
     static List<String> answersTo(int probe, QuotaRegister x) {
         Probes probes = new Probes(x);
         probes.make(probe);
+        if (probes.answers.size() > MOST_CALLS) {
+            throw new IllegalStateException("probe " + probe + " makes too many calls");
+        }
         return probes.answers;
     }
 

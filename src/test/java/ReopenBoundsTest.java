@@ -211,21 +211,7 @@ public final class ReopenBoundsTest {
             reopen(0) throws IllegalArgument
             reopen(1)
             """);
-        runs.run("promise 16: all eight, and no ninth", """
-            open(0, 0, 0, 0)
-            end()
-            open(0, 0, 0, 0)
-            end()
-            open(0, 0, 0, 0)
-            end()
-            open(0, 0, 0, 0)
-            end()
-            open(0, 0, 0, 0)
-            end()
-            open(0, 0, 0, 0)
-            end()
-            open(0, 0, 0, 0)
-            end()
+        runs.run("promise 16: all eight, and no ninth", Runs.SEVEN_YEARS + """
             reopen(8) throws IllegalArgument
             open(0, 0, 0, 0)
             reopen(8) throws IllegalState

@@ -11,6 +11,7 @@ public final class SharesBoundsTest {
         test.promise4Vessel();
         test.promise5Numbers();
         test.promise5Caps();
+        test.promises5And6InAnyYear();
         test.promise6Unlink();
         test.promise7Numbers();
         test.promise7Full();
@@ -104,44 +105,50 @@ public final class SharesBoundsTest {
 
     private void promise2Numbers() {
         runs.run("promise 2: species 0 .. 3", """
-            species(MIN, 5, 7) throws IllegalArgument
-            species(-1, 5, 7) throws IllegalArgument
+            species(MIN, 6, 8) throws IllegalArgument
+            species(-1, 6, 8) throws IllegalArgument
+            species(4, 6, 8) throws IllegalArgument
+            species(MAX, 6, 8) throws IllegalArgument
             species(0, 5, 7)
             species(1, 5, 7)
             species(2, 5, 7)
             species(3, 5, 7)
-            species(4, 5, 8) throws IllegalArgument
-            species(MAX, 5, 8) throws IllegalArgument
+            species(-1, 6, 8) throws IllegalArgument
+            species(4, 6, 8) throws IllegalArgument
             issue(0, 0, 8) throws IllegalState
             issue(0, 0, 7) = 7
             issue(3, 0, 8) throws IllegalState
             issue(3, 0, 7) = 7
             """);
         runs.run("promise 2: value 1 .. 1000", """
+            species(0, 1001, 50) throws IllegalArgument
+            species(0, MAX, 50) throws IllegalArgument
+            species(0, 0, 50) throws IllegalArgument
+            species(0, -1, 50) throws IllegalArgument
+            species(0, MIN, 50) throws IllegalArgument
             open(0, 0, 0, 0)
             land(1, 0, 0, 0, 3, false)
             land(1, 0, 3, 0, 1, false)
             end() = 2
             species(0, 1000, 1000000)
             species(0, 1001, 1000000) throws IllegalArgument
-            species(0, MAX, 1000000) throws IllegalArgument
             levy(0, 1) = 3001
             species(0, 1, 1000000)
             species(0, 0, 1000000) throws IllegalArgument
-            species(0, -1, 1000000) throws IllegalArgument
-            species(0, MIN, 1000000) throws IllegalArgument
             levy(0, 1) = 4
             species(3, 1000, 1000000)
             levy(0, 1) = 1003
             """);
         runs.run("promise 2: cap 0 .. 1000000", """
-            species(1, 1, 0)
-            species(1, 1, -1) throws IllegalArgument
-            species(1, 1, MIN) throws IllegalArgument
+            species(1, 5, -1) throws IllegalArgument
+            species(1, 5, MIN) throws IllegalArgument
+            species(1, 5, 1000001) throws IllegalArgument
+            species(1, 5, MAX) throws IllegalArgument
+            species(1, 7, 0)
+            species(1, 5, -1) throws IllegalArgument
             issue(1, 0, 1) throws IllegalState
-            species(1, 1, 1000000)
-            species(1, 1, 1000001) throws IllegalArgument
-            species(1, 1, MAX) throws IllegalArgument
+            species(1, 7, 1000000)
+            species(1, 5, 1000001) throws IllegalArgument
             issue(1, 0, 1000000) = 1000000
             """);
     }
@@ -310,6 +317,15 @@ public final class SharesBoundsTest {
             vessel($v, $v)
             place(2, $v, 1) = 1
             vessel($v, $v+) throws IllegalState
+            open(10, 10, 10, 10)
+            place(2, $v, -1) = 0
+            vessel($v, $v+)
+            place(2, $v, 1) throws IllegalState
+            place(2, $v+, 5) = 5
+            end()
+            vessel($v, $v)
+            vessel($v+, $v+) throws IllegalState
+            place(2, $v, 1) throws IllegalState
             """);
         runs.run("promise 4: IllegalArgumentException is named first", """
             issue(0, 0, 1)
@@ -431,6 +447,31 @@ public final class SharesBoundsTest {
             link(0, 1)
             link(1, 2)
             issue(0, 2, 1) throws IllegalState
+            """);
+    }
+
+    private void promises5And6InAnyYear() {
+        runs.run("promises 5 and 6: also in a year, and when it ended, with the cap as before", """
+            issue(0, 0, 10)
+            issue(0, 1, 20)
+            issue(0, 2, 30)
+            species(0, 1, 30)
+            open(0, 0, 0, 0)
+            link(0, 1)
+            held(0, 0, 2) = 30
+            link(1, 2) throws IllegalState
+            unlink(1, 2) throws IllegalState
+            unlink(0, 1)
+            held(0, 0, 2) = 10
+            end()
+            link(1, 2) throws IllegalState
+            link(1, 0)
+            unlink(0, 1)
+            open(0, 0, 0, 0)
+            species(0, 1, 50)
+            link(1, 2)
+            held(0, 1, 2) = 50
+            link(0, 1) throws IllegalState
             """);
     }
 
@@ -677,13 +718,23 @@ public final class SharesBoundsTest {
             sell(1, 0, 3, 2) throws IllegalState
             sell(1, 0, 3, 1)
             """);
-        runs.run("promise 8: also in a year, and when it ended", """
-            issue(0, 0, 3)
+        runs.run("promise 8: also in a year, and when it ended, with the cap as before", """
+            issue(0, 0, 20)
+            issue(0, 1, 8)
+            place(0, 0, 5)
+            species(0, 1, 20)
             open(0, 0, 0, 0)
-            sell(0, 0, 1, 1)
+            sell(0, 0, 1, 13) throws IllegalState
+            sell(0, 0, 1, 10)
+            sell(0, 0, 1, 3) throws IllegalState
             end()
-            sell(0, 0, 1, 1)
-            held(0, 1, 0) = 2
+            sell(0, 0, 1, 3) throws IllegalState
+            sell(0, 0, 1, 2)
+            held(0, 1, 0) = 20
+            sell(0, 0, 2, 4) throws IllegalState
+            open(0, 0, 0, 0)
+            sell(0, 0, 2, 3)
+            held(0, 0, 1) = 0
             """);
     }
 
@@ -729,6 +780,7 @@ public final class SharesBoundsTest {
             place(2, $v, 101) throws IllegalState
             place(2, $v, MAX) throws IllegalState
             place(2, $v, 60) = 60
+            place(2, $v, MAX) throws IllegalState
             place(2, $v, 41) throws IllegalState
             place(2, $v+, 41) throws IllegalState
             place(2, $v+, 39) = 39
@@ -749,6 +801,7 @@ public final class SharesBoundsTest {
             place(1, $v, -30) throws IllegalState
             place(1, $v, MIN) throws IllegalState
             place(1, $v, -10) = 0
+            place(1, $v, MIN) throws IllegalState
             place(1, $v, -1) throws IllegalState
             place(1, $v, 0) = 0
             place(1, $v+, -21) throws IllegalState

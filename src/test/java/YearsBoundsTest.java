@@ -18,6 +18,7 @@ public final class YearsBoundsTest {
         test.promise11GoesOnToTheNextYear();
         test.promise17Numbers();
         test.promise17WhileTheYearIsOpen();
+        test.promise17WhileEachYearIsOpen();
         test.promise17BelowZero();
         test.promise18Numbers();
         test.promise18AsTheyAreNow();
@@ -58,18 +59,26 @@ public final class YearsBoundsTest {
 
     private void promise10OpenOrFull() {
         runs.run("promise 10: one year at a time", """
-            open(1, 2, 3, 4) = 1
-            open(1, 2, 3, 4) throws IllegalState
+            issue(0, 0, 1000000)
+            place(0, 0, 1000000)
+            issue(3, 0, 1000000)
+            place(3, 0, 1000000)
+            open(10, 20, 30, 40) = 1
+            open(50, 60, 70, 80) throws IllegalState
             about(0) = 1
+            account(1, 0, 0, 0) = 10
+            account(1, 0, 3, 0) = 40
             end()
-            open(1, 2, 3, 4) = 2
+            open(10, 20, 30, 40) = 2
             open(0, 0, 0, 0) throws IllegalState
             end()
             reopen(2)
             # a year that is reopened is not open
-            open(1, 2, 3, 4) = 3
+            open(10, 20, 30, 40) = 3
             """);
         runs.run("promise 10: eight years, and no ninth", """
+            issue(0, 0, 1000000)
+            place(0, 0, 1000000)
             open(1, 1, 1, 1) = 1
             end()
             open(1, 1, 1, 1) = 2
@@ -85,9 +94,10 @@ public final class YearsBoundsTest {
             open(1, 1, 1, 1) = 7
             end()
             open(1, 1, 1, 1) = 8
-            open(1, 1, 1, 1) throws IllegalState
+            open(9, 9, 9, 9) throws IllegalState
             end()
-            open(1, 1, 1, 1) throws IllegalState
+            open(9, 9, 9, 9) throws IllegalState
+            account(8, 0, 0, 0) = 1
             about(0) = 8
             about(1) = 0
             reopen(8)
@@ -551,18 +561,7 @@ public final class YearsBoundsTest {
         runs.run("promise 11: from the seventh year to the eighth, whose own goes nowhere", """
             issue(0, 0, 1000000)
             place(0, 0, 1000000)
-            open(100, 0, 0, 0)
-            end()
-            open(100, 0, 0, 0)
-            end()
-            open(100, 0, 0, 0)
-            end()
-            open(100, 0, 0, 0)
-            end()
-            open(100, 0, 0, 0)
-            end()
-            open(100, 0, 0, 0)
-            end()
+            """ + "open(100, 0, 0, 0)\nend()\n".repeat(6) + """
             open(100, 0, 0, 0)
             land(7, 0, 0, 0, 118, false)
             end() = 0
@@ -598,21 +597,7 @@ public final class YearsBoundsTest {
             account(MIN, 0, 0, 0) throws IllegalArgument
             account(MAX, 0, 0, 0) throws IllegalArgument
             """);
-        runs.run("promise 17: year 8, and no ninth", """
-            open(0, 0, 0, 0)
-            end()
-            open(0, 0, 0, 0)
-            end()
-            open(0, 0, 0, 0)
-            end()
-            open(0, 0, 0, 0)
-            end()
-            open(0, 0, 0, 0)
-            end()
-            open(0, 0, 0, 0)
-            end()
-            open(0, 0, 0, 0)
-            end()
+        runs.run("promise 17: year 8, and no ninth", Runs.SEVEN_YEARS + """
             account(8, 5, 3, 5) throws IllegalArgument
             open(0, 0, 0, 0)
             land(8, 5, 3, 0, 9, false)
@@ -703,6 +688,28 @@ public final class YearsBoundsTest {
             account(2, 0, 0, 8) = 80
             account(2, 0, 1, 6) = 15
             """);
+    }
+
+    private void promise17WhileEachYearIsOpen() {
+        StringBuilder rows = new StringBuilder("""
+            issue(0, 0, 1000000)
+            place(0, 0, 1000000)
+            """);
+        for (int year = 1; year <= 8; year++) {
+            rows.append("""
+                open(100, 100, 100, 100)
+                land(YEAR, 0, 1, 0, 3, false)
+                account(YEAR, 0, 0, 6) = 0
+                account(YEAR, 0, 1, 8) = 0
+                land(YEAR, 0, 0, 0, 105, false)
+                account(YEAR, 0, 0, 7) = 0
+                levy(0, YEAR) = 0
+                end()
+                account(YEAR, 0, 0, 7) = 5
+                account(YEAR, 0, 1, 8) = 3
+                """.replace("YEAR", "" + year));
+        }
+        runs.run("promise 17: 6 to 8 are 0 as long as a year is open, the eighth too", rows.toString());
     }
 
     private void promise17BelowZero() {
