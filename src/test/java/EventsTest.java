@@ -9,6 +9,16 @@ public final class EventsTest {
         place(1, 0, 1000000)
         open(4000, 2000, 0, 0)
         """;
+    private static final String ALL_KINDS = OPENED + """
+        species(0, 3, 1000000)
+        factor(0, 1, 2000)
+        lease(0, 0, 1, 250) = 0
+        land(1, 0, 0, 1, 41, true) = 1
+        equivalent(0, 0, 1, 12) = 2
+        end()
+        open(4000, 2000, 0, 0)
+        land(2, 2, 2, 0, 9, false) = 3
+        """;
 
     private final Runs runs = new Runs();
 
@@ -17,7 +27,8 @@ public final class EventsTest {
         test.promise12();
         test.promise13();
         test.promise14();
-        test.promises20And21();
+        test.promise20();
+        test.promise21();
         test.runs.finish();
     }
 
@@ -68,16 +79,8 @@ public final class EventsTest {
             """);
     }
 
-    private void promises20And21() {
-        runs.run("promises 20 and 21: what is told of all kinds of events", OPENED + """
-            species(0, 3, 1000000)
-            factor(0, 1, 2000)
-            lease(0, 0, 1, 250) = 0
-            land(1, 0, 0, 1, 41, true) = 1
-            equivalent(0, 0, 1, 12) = 2
-            end()
-            open(4000, 2000, 0, 0)
-            land(2, 2, 2, 0, 9, false) = 3
+    private void promise20() {
+        runs.run("promise 20: what is told of all kinds of events", ALL_KINDS + """
             event(0, 0) = 0
             event(0, 1) = 1
             event(0, 2) = 1
@@ -89,16 +92,25 @@ public final class EventsTest {
             event(3, 0) = 1
             event(3, 1) = 2
             event(3, 2) = 1
+            strike(3)
+            event(3, 2) = 0
+            # a landing's live weight is what it was
+            event(3, 3) = 9
+            """);
+    }
+
+    private void promise21() {
+        runs.run("promise 21: years and events, also such as don't count", ALL_KINDS + """
             about(0) = 2
             about(1) = 1
             about(2) = 4
             about(3) = 4
             strike(3)
-            event(3, 2) = 0
-            # a landing's live weight is what it was
-            event(3, 3) = 9
             about(2) = 4
             about(3) = 3
+            end()
+            about(0) = 2
+            about(1) = 0
             """);
     }
 }

@@ -12,7 +12,7 @@ import java.util.TreeSet;
 public final class FaceTest {
     private static final String A = " throws IllegalArgumentException";
     private static final String AS = " throws IllegalArgumentException, IllegalStateException";
-    private static final String[] FACE = {
+    static final String[] FACE = {
         "void species(int, int, int)" + A,
         "void factor(int, int, int)" + A,
         "void vessel(int, int)" + AS,

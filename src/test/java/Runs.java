@@ -1,5 +1,9 @@
 import java.util.ArrayList;
 import java.util.List;
+import java.util.Map;
+import java.util.TreeMap;
+import java.util.regex.Matcher;
+import java.util.regex.Pattern;
 
 /**
  * Makes runs of calls on new objects, told in rows of text, and looks whether each answers what is due:
@@ -18,11 +22,14 @@ final class Runs {
     /** Rows for years in which nothing is told. */
     static final String SEVEN_YEARS = "open(0, 0, 0, 0)\nend()\n".repeat(7);
 
+    private static final Pattern PROMISE = Pattern.compile("promise (\\d+): .*");
     private static final int MOST_CALLS = 512;
     /** One fault can show in hundreds of rows; the first ones tell enough. */
     private static final int MOST_WRONG = 20;
 
     private int wrong = 0;
+    /** How many runs each promise has, by the titles that name one. */
+    private final Map<Integer, Integer> promises = new TreeMap<>();
     private String title = "";
     private QuotaRegister x = new QuotaRegister();
     /** The calls that may have changed the object. */
@@ -34,6 +41,10 @@ final class Runs {
     /** A run; its title names the promise. */
     void run(String title, String rows) {
         this.title = title;
+        Matcher named = PROMISE.matcher(title);
+        if (named.matches()) {
+            promises.merge(Integer.valueOf(named.group(1)), 1, Integer::sum);
+        }
         x = new QuotaRegister();
         changes.clear();
         heard.clear();
@@ -124,11 +135,12 @@ final class Runs {
         }
     }
 
-    /** Ends the test's program. */
+    /** Ends the test's program; else says which promises were looked at, as .ci/run wants to hear of each. */
     void finish() {
         if (wrong != 0) {
             System.out.println((wrong == MOST_WRONG ? "at least " : "") + wrong + " rows are not as due");
             System.exit(1);
         }
+        promises.forEach((promise, runs) -> System.out.println("promise " + promise + ": runs as due: " + runs));
     }
 }
